@@ -585,9 +585,6 @@ public final class WantPlots {
         void addPerson(int kindOfPerson) {
             if (people < MAX_PEOPLE) {
                 kind[people] = kindOfPerson;
-                goalFact[people] = 0;
-                wantsTrue[people] = 0;
-                wantsFalse[people] = 0;
                 people++;
             }
         }

@@ -11,6 +11,8 @@ public final class StoryTest {
         fates();
         acts();
         undone();
+        undoneAndReplaced();
+        tenActs();
         Check.end("StoryTest");
     }
 
@@ -63,6 +65,12 @@ public final class StoryTest {
         Check.due("idle: go in round 1", x.go(1), 0);
         Check.due("idle: go in round 2", x.go(1), 1);
         steps("idle", x, new int[] {0, 1}, new int[] {0, 2});
+        for (int round = 3; round < 9; round++) {
+            if (x.about(6) != 0) {
+                x.fate(1);
+            }
+            Check.due("idle: go in round " + round, x.go(1), round % 2 == 0 ? 1 : 0);
+        }
         WantPlots y = Check.worldOf("i+c,i+d;:0>a,0a>c,1>b,1b>d");
         Check.due("two idle ones: go in round 0", y.go(2), 2);
         Check.due("two idle ones: go in round 1", y.go(2), 0);
@@ -215,5 +223,57 @@ public final class StoryTest {
         Check.due("the next turn stays", x.about(3), 3);
         Check.due("steps undone", x.count(5), 3);
         Check.due("acts undone", x.deed(2, 6), 0);
+        Check.due("acts undone", x.deed(0, 6), 0);
+        x.act(2);
+        x.undo();
+        x.fate(0);
+        x.undo();
+        x.fate(6);
+        Check.due("fate in the place of an act: facts", x.about(4), 66);
+        Check.due("fate in the place of an act: the fact", x.step(0, 2), 6);
+        Check.due("fate in the place of an act: the act", x.step(0, 0), -1);
+        x.fate(0);
+        Check.due("fate in the place of an act: the first one is dull", x.step(0, 7), 1);
+        x.undo();
+        x.undo();
+        x.act(0);
+        x.act(1);
+        x.act(2);
+        Check.due("linked once", x.step(2, 4), 2);
+        Check.due("depends on two", x.step(2, 5), 3);
+        x.undo();
+        x.fate(3);
+        Check.due("fate in the place of a linked act: links", x.step(2, 4), 0);
+        Check.due("fate in the place of a linked act: dependence", x.step(2, 5), 0);
+        Check.due("fate in the place of a linked act: thread", x.step(2, 6), 1);
+        Check.due("fate in the place of a linked act: nothing is needed", x.step(1, 7), 1);
+    }
+
+    private static void undoneAndReplaced() {
+        WantPlots x = Check.worldOf("p+c;:0-a>a");
+        x.fate(3);
+        x.act(0);
+        Check.due("done", x.deed(0, 6), 1);
+        x.undo();
+        Check.due("done and undone", x.deed(0, 6), 0);
+        x.undo();
+        x.fate(0);
+        x.fate(1);
+        x.fate(3);
+        Check.due("fate needs nothing to be false", x.step(2, 7), 1);
+    }
+
+    private static void tenActs() {
+        WantPlots x = Check.worldOf("k+h,p-h;:0>a,0>b,0>c,0>d,0>e,1>a,1>b,1>c,1>d,1>h");
+        Check.due("ten acts: the first one's", x.one(0, 3), 31);
+        Check.due("ten acts: the second one's", x.one(1, 3), 992);
+        x.act(9);
+        Check.due("ten acts: the last one", x.act(9), 2);
+        Check.due("ten acts: the eleventh", x.act(10), -101);
+        Check.due("ten acts: learnt", x.one(0, 3), 31 + 512);
+        Check.due("ten acts: steps", x.one(1, 4), 2);
+        Check.due("ten acts: own steps", x.one(0, 4), 0);
+        x.fate(7);
+        Check.due("ten acts: the learnt act", x.one(0, 7), 9);
     }
 }

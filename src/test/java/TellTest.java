@@ -112,6 +112,7 @@ public final class TellTest {
 
     private static void ones() {
         WantPlots x = Check.worldOf("s-h,k+c,i+d,p-a;ah:1>b,0b>-h,2a>d,0>b");
+        Check.due("the first act before anything else was asked", x.one(2, 6), 2);
         row("the sly one", one(x, 0), 1, 7, 0, 10, 0, 2, 3, 3);
         row("the keen one", one(x, 1), 2, 2, 1, 1, 0, -1, -1, -1);
         row("the idle one", one(x, 2), 3, 3, 1, 4, 0, 1, 2, 2);

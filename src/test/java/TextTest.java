@@ -228,5 +228,26 @@ public final class TextTest {
             Check.due("second: count " + what, x.count(what), count[what]);
         }
         Check.due("second: undo", x.undo(), -103);
+        Check.write(x, "p+h,i-a;:1>g,0>-c");
+        Check.due("the third world", x.world(), 2);
+        row("third: about", new int[] {x.about(0), x.about(1), x.about(4), x.about(5), x.about(6)}, 2, 2, 0, 0, 2);
+        for (int act = 0; act < 2; act++) {
+            row("third: deed " + act, new int[] {x.deed(act, 0), x.deed(act, 1), x.deed(act, 2), x.deed(act, 3),
+                x.deed(act, 4)}, 1 - act, 0, 0, act == 0 ? 64 : 0, act == 0 ? 0 : 4);
+        }
+        Check.write(x, "p+a;abc:0abc-d>");
+        Check.due("a text that is not ended", x.fault(), 15);
+        Check.due("a text that is not ended", x.world(), -103);
+        x.blank();
+        Check.write(x, "p-h;:0>h");
+        Check.due("the fourth world", x.world(), 1);
+        row("fourth", new int[] {x.about(4), x.deed(0, 1), x.deed(0, 2), x.deed(0, 3), x.deed(0, 4), x.one(0, 1),
+            x.one(0, 2), x.about(6)}, 0, 0, 0, 128, 0, 7, 0, 1);
+    }
+
+    private static void row(String name, int[] got, int... want) {
+        for (int i = 0; i < want.length; i++) {
+            Check.due(name + ", " + i, got[i], want[i]);
+        }
     }
 }

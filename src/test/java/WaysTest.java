@@ -72,6 +72,15 @@ public final class WaysTest {
         x.act(1);
         Check.due("the empty way", x.ways(0), 1);
         Check.due("to and fro", x.ways(2), 1);
+        WantPlots down = Check.worldOf("p-a,p-h;ah:0a>-a,0h>-h,0>b");
+        int[] down3 = {0, 0, 2, 6, 12};
+        for (int length = 0; length <= 4; length++) {
+            Check.due("ways to false facts " + length, down.ways(length), down3[length]);
+        }
+        WantPlots nowhere = Check.worldOf("p-a,p-h;a:0>-a");
+        Check.due("ways to no facts at all", nowhere.ways(2), 1);
+        WantPlots all = Check.worldOf("p+a,p+h;bcdefg:0>ah");
+        Check.due("ways to all facts", all.ways(1), 1);
     }
 
     private static void waysModulo() {
