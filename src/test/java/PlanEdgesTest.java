@@ -23,6 +23,7 @@ public final class PlanEdgesTest {
         noFoil();
         foilOfASatisfiedOne();
         foilByRepertoires();
+        foilThroughAllStates();
         ownActs();
         seenTwice();
         presentStory();
@@ -209,6 +210,38 @@ public final class PlanEdgesTest {
         Check.acts(y, 1, 1);
         y.fate(0);
         foil(y, 0, 1, 1);
+    }
+
+    /**
+     * False facts are holes: each act but the first one and the last one moves a hole to the fact
+     * before, where it may meet another hole. So all 256 states can be reached, the one without holes
+     * last; in any other one, whoever can move holes can make a false. The last act leaves the first
+     * state as it is.
+     */
+    private static void foilThroughAllStates() {
+        Check.sentence("Description", "as few acts of the first one's repertoire as possible: the last of all states");
+        WantPlots x = Check.worldOf("p+a,k-a;:0>a,0-b>b-a,0-c>c-b,0-d>d-c,0-e>e-d,0-f>f-e,0-g>g-f,0-h>h-g,0>-a");
+        Check.acts(x, 1, 2, 1, 3, 2, 4, 3, 5, 4, 6, 5, 7, 6);
+        Check.fates(x, 7);
+        Check.acts(x, 7);
+        Check.due("the other one has learnt to move holes", x.one(1, 3), 254);
+        for (int fact = 0; fact < 8; fact++) {
+            if ((x.about(4) >> fact & 1) != 0) {
+                Check.fates(x, fact);
+            }
+        }
+        Check.due("no fact is true", x.about(4), 0);
+        foil(x, 0, 1, 7, 6, 5, 4, 3, 2, 1, 0);
+        Check.acts(x, 7, 6, 5, 4, 3, 2);
+        foil(x, 0, 1, 1, 0);
+        Check.acts(x, 1);
+        Check.due("the other one is satisfied", x.one(1, 5), 0);
+        foil(x, 0, 1, 0);
+        Check.due("steps", x.about(2) <= 29 ? 1 : 0, 1);
+        Check.acts(x, 0);
+        Check.due("all facts are true", x.about(4), 255);
+        Check.due("the other one has no plan", x.one(1, 5), -1);
+        foil(x, 0, 1);
     }
 
     // ---- the description: repertoires
